@@ -8,6 +8,7 @@ public final class BellsTest {
         bellsAtTheMost();
         draws();
         casts();
+        castsByManyDraws();
         nights();
         months();
         states();
@@ -150,6 +151,18 @@ public final class BellsTest {
         C.due("23 drawn", drawn % 100 < 99 ? 1 : 0, 1);
         x.seed(-1);
         C.due("23 awake", x.cast(0), 0);
+    }
+
+    private static void castsByManyDraws() {
+        for (int z = -300; z < 300; z++) {
+            DreamNets x = new DreamNets();
+            x.boat(0, 0, 0, 0);
+            x.sleep(0, 3, 4);
+            x.set(0, 37);
+            x.seed(z);
+            int leaves = ((z * 1103515245 + 12345) >>> 16) % 100;
+            C.due("23 cast from " + z, x.cast(0), leaves < 37 ? 0 : 1);
+        }
     }
 
     private static void nights() {

@@ -14,6 +14,7 @@ public final class BoatsTest {
         nightmaresTear();
         frees();
         lands();
+        boatsByThemselves();
         C.end();
     }
 
@@ -304,5 +305,30 @@ public final class BoatsTest {
         C.due("21 coins", x.state(1), 93);
         C.due("21 no boat", x.land(2), -1);
         C.due("21 no boat", x.land(-1), -1);
+    }
+
+    private static void boatsByThemselves() {
+        DreamNets x = new DreamNets();
+        x.boat(5, 0, 0, 0);
+        x.boat(5, 1, 2, 0);
+        x.boat(5, 2, 4, 0);
+        for (int boat = 0; boat < 3; boat++) {
+            x.sleep(2 * boat, boat, 10 * boat + 3);
+            C.due("19 haul", x.haul(boat), 10 * boat + 3);
+        }
+        C.due("12 holds", x.of(0, 5), 3);
+        C.due("12 holds", x.of(1, 6), 13);
+        C.due("12 holds", x.of(2, 7), 23);
+        C.due("12 worth", x.of(1, 10), 52);
+        C.due("20 free", x.free(1, 1), 13);
+        C.due("20 there", x.street(2, 1), 13);
+        C.due("12 the others hold theirs", x.of(0, 5) + x.of(2, 7), 26);
+        C.due("21 land", x.land(2), 46);
+        C.due("12 the other holds its own", x.of(0, 10), 27);
+        C.due("19 haul", x.haul(1), 13);
+        C.due("9 it lacks both", x.street(2, 6), 26);
+        C.due("8 taken both", x.ward(1, 1), 26);
+        C.due("13 mind", x.mind(1, 0, 4), 5);
+        C.due("12 the other is of its kind", x.of(2, 0), 5);
     }
 }

@@ -7,6 +7,7 @@ public final class HarbourTest {
         feed();
         harbourTells();
         harbourIsAllByItAlone();
+        nothingIsLeftOver();
         faults();
         faultsChangeNothing();
         laws();
@@ -181,6 +182,42 @@ public final class HarbourTest {
         C.due("3 the trace stays", x.many(6), 3);
     }
 
+    /** What was tried, told or held once doesn't come up again. */
+    private static void nothingIsLeftOver() {
+        DreamNets x = new DreamNets();
+        x.seed(5);
+        C.due("3 harbour", x.harbour(), 0);
+        C.due("3 z stays", x.seed(5), 5);
+        for (int boat = 0; boat < 3; boat++) {
+            x.boat(4, 9, boat, 0);
+            for (int sort = 0; sort < 5; sort++) {
+                x.sleep(boat, sort, 90);
+            }
+            x.haul(boat);
+        }
+        x.lasts();
+        C.due("3 torn", x.many(1), 3);
+        C.due("3 harbour", Check.tell(x, "boat 1 at 1 mesh 1;"), 1);
+        C.due("3 none torn", x.many(1), 0);
+        C.due("3 nothing held", x.state(3), 0);
+        C.due("11 a boat", x.boat(0, 0, 0, 0), 1);
+        for (int boat = 0; boat < 2; boat++) {
+            C.due("3 of it, torn", x.of(boat, 4), 0);
+            for (int what = 5; what < 11; what++) {
+                C.due("3 of it, held", x.of(boat, what), 0);
+            }
+        }
+        C.due("3 nothing held", x.state(3), 0);
+        // bytes of an earlier tape
+        C.due("3 a fault", Check.tell(x, "wake 555;"), -105);
+        C.due("3 more must come", Check.tell(x, "wake 5"), -106);
+        C.due("3 a fault", Check.tell(x, "boatsss"), -100);
+        C.due("3 more must come", Check.tell(x, "boat"), -104);
+        C.due("3 a fault", Check.tell(x, "wake 5;;"), -107);
+        C.due("3 more must come", Check.tell(x, "wake 5"), -106);
+        C.due("3 none", Check.tell(x, "wake 5;"), 0);
+    }
+
     private static void fault(String text, int place) {
         DreamNets x = new DreamNets();
         C.due("3 fault of \"" + text + "\"", Check.tell(x, text), -100 - place);
@@ -226,6 +263,9 @@ public final class HarbourTest {
         // names are as long as they go, and of small letters
         fault("boats 3 at 1 mesh 2;", 0);
         fault("boa", 0);
+        fault("xoat 1 at 1 mesh 1;", 0);
+        fault("boatz 1 at 1 mesh 1;", 0);
+        fault("zboat 1 at 1 mesh 1;", 0);
         fault("boatatmesh", 0);
         fault("Boat 3 at 1 mesh 2;", 0);
         fault("boaT 3 at 1 mesh 2;", 0);

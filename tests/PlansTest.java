@@ -5,6 +5,7 @@ public final class PlansTest {
     public static void main(String[] args) {
         plans();
         plansOfSeveral();
+        plansOfEach();
         plansGoRound();
         fines();
         lasts();
@@ -99,6 +100,20 @@ public final class PlansTest {
         y.sleep(7, 1, 40);
         C.due("28 either", y.plan(0, 1), 40);
         C.due("29 the lower", y.stop(0, 1, 0), 1);
+    }
+
+    private static void plansOfEach() {
+        DreamNets x = new DreamNets();
+        x.boat(0, 0, 0, 0);
+        x.boat(1, 0, 4, 0);
+        x.sleep(0, 1, 40);
+        x.sleep(4, 1, 40);
+        C.due("28 of the first", x.plan(0, 1), 40);
+        C.due("28 of the second", x.plan(1, 1), 80);
+        C.due("29 of the second", x.stop(1, 1, 0), 4);
+        C.due("29 of the first", x.stop(0, 1, 0), 0);
+        C.due("30 of the second", x.fine(1, 1, 1), 80);
+        C.due("37 of the second", x.hope(1, 1, 0), 72);
     }
 
     private static void plansGoRound() {
@@ -241,7 +256,6 @@ public final class PlansTest {
         lastsAtTheMost();
     }
 
-    /** A stock that is just gone behind n bells, by a poacher of flying that waits downstream. */
     private static void lastsAtTheMost() {
         DreamNets x = new DreamNets();
         for (int street = 0; street < 8; street++) {
@@ -252,6 +266,21 @@ public final class PlansTest {
         x.boat(2, 1, 0, 0);
         // by 4 + 1, 3 + 1, ..: 19, 14, 10, 7, 5, 3, 2, 1, 0
         C.due("31 behind eight", x.lasts(), 8);
+        // Flying goes round, a street each bell, and a drifter takes a quarter and 1 of what comes by: of the 10 that
+        // come to it at the bells 7, 15, .. 47 then 7, 5, 3, 2, 1 and none are left, and come to street 3 behind 48.
+        DreamNets y = new DreamNets();
+        y.set(1, 20);
+        y.set(2, 1);
+        y.boat(2, 1, 2, 2);
+        for (int street = 0; street < 8; street++) {
+            y.sleep(street, 5, 0);
+            y.sleep(street, 0, street == 3 ? 10 : 19);
+            y.sleep(street, 2, street == 3 ? 0 : 1);
+        }
+        C.due("31 behind 48", y.lasts(), 48);
+        y.sleep(3, 2, 1);
+        y.sleep(4, 2, 0);
+        C.due("31 behind 49: not by then", y.lasts(), -3);
     }
 
     private static void shoals() {
@@ -379,6 +408,20 @@ public final class PlansTest {
         x.sleep(2, 5, 0);
         x.sleep(3, 5, 0);
         C.due("34 10 by 1 and 5 by 1", x.gives(), 3);
+        DreamNets y = new DreamNets();
+        for (int boat = 0; boat < 2; boat++) {
+            y.boat(5, 2, 2 * boat, 0);
+            y.sleep(2 * boat, 2, boat == 0 ? 7 : 5);
+            y.haul(boat);
+            y.sleep(2 * boat, 5, boat);
+            y.sleep(2 * boat + 1, 5, 0);
+        }
+        C.due("34 7 by 1 of none, 5 by 1", y.gives(), 0);
+        y.sleep(0, 5, 1);
+        y.sleep(2, 5, 0);
+        C.due("34 7 by 1, 5 by 1 of none", y.gives(), 0);
+        y.sleep(1, 5, 1);
+        C.due("34 7 by 2, 5 by 1 of none", y.gives(), 1);
         C.due("34 quotas don't matter", x.quota(3, 0), 999);
         C.due("34 10 by 1", x.gives(), 3);
     }

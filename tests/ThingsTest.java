@@ -229,6 +229,11 @@ public final class ThingsTest {
     private static void shelves() {
         DreamNets x = new DreamNets();
         C.due("46 no boat", x.shelf(0, 0, 0), -1);
+        DreamNets fresh = new DreamNets();
+        fresh.boat(0, 0, 0, 0);
+        for (int shelf = 0; shelf < 4; shelf++) {
+            C.due("47 nothing at first", fresh.taken(shelf, 0), -11);
+        }
         for (int kind = 0; kind < 6; kind++) {
             x.boat(kind, 0, 0, 0);
         }
@@ -395,6 +400,8 @@ public final class ThingsTest {
         // 25 by -2 is -12
         C.due("48 tug mends", x.act(1, 2, 20), -24);
         trace(x, "tug mends", 50, 12);
+        C.due("48 tug mends", x.act(1, 2, 19), -24);
+        C.due("48 tug mends", x.act(1, 2, 21), -26);
         C.due("48 tug hums", x.act(1, 3, 20), 62);
         trace(x, "tug hums", 13, 20, 11, 51, 10);
 

@@ -1319,7 +1319,6 @@ public final class DreamNets {
         void startAs(int number, int m) {
             n = number;
             a = m;
-            bodies = 0;
             parted = false;
         }
 
