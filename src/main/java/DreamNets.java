@@ -24,7 +24,6 @@ public final class DreamNets {
     private final World now;
     private final World kept;
     private final World trial;
-    private final Boat[] kinds;
     private final Search search;
     private final Tape tape = new Tape();
     private final Acting acting = new Acting();
@@ -37,13 +36,7 @@ public final class DreamNets {
     private boolean hasKept;
 
     public DreamNets() {
-        kinds = new Boat[KINDS];
-        kinds[0] = new Boat();
-        kinds[1] = new Seiner();
-        kinds[2] = new Drifter();
-        kinds[3] = new Tug();
-        kinds[4] = new Dredger();
-        kinds[5] = new Poacher();
+        Boat[] kinds = boatsOfEachKind();
         now = new World(kinds);
         kept = new World(kinds);
         trial = new World(kinds);
@@ -51,6 +44,17 @@ public final class DreamNets {
         for (int shelf = 0; shelf < SHELVES; shelf++) {
             shelfBoats[shelf] = NO_BOAT;
         }
+    }
+
+    private static Boat[] boatsOfEachKind() {
+        Boat[] kinds = new Boat[KINDS];
+        kinds[0] = new Boat();
+        kinds[1] = new Seiner();
+        kinds[2] = new Drifter();
+        kinds[3] = new Tug();
+        kinds[4] = new Dredger();
+        kinds[5] = new Poacher();
+        return kinds;
     }
 
     // ---- the tape ----
@@ -576,7 +580,7 @@ public final class DreamNets {
         if (row != null) {
             return asRow && row.sort == as - 10 ? row.items.length : OTHER_SORT;
         }
-        return !asRow && kinds[now.kind[boat]].isUnder(as) ? boat : OTHER_SORT;
+        return !asRow && now.kindOf(boat).isUnder(as) ? boat : OTHER_SORT;
     }
 
     public int act(int shelf, int act, int x) {
@@ -586,7 +590,7 @@ public final class DreamNets {
         }
         int boat = shelfBoats[shelf];
         acting.startAs(boat, now.m[boat]);
-        Boat thing = kinds[now.kind[boat]];
+        Boat thing = now.kindOf(boat);
         int answer;
         switch (act) {
             case 0:
@@ -906,6 +910,10 @@ public final class DreamNets {
             return boat;
         }
 
+        Boat kindOf(int boat) {
+            return kinds[kind[boat]];
+        }
+
         int sleepersIn(int ward) {
             return sleepers[2 * ward] + sleepers[2 * ward + 1];
         }
@@ -985,11 +993,11 @@ public final class DreamNets {
 
         int takeOf(int boat, int sort) {
             int there = stock[at[boat] * SORTS + sort];
-            return Math.min(there, kinds[kind[boat]].catchOf(there, sort, m[boat]));
+            return Math.min(there, kindOf(boat).catchOf(there, sort, m[boat]));
         }
 
         int tearOf(int boat) {
-            return kinds[kind[boat]].tearBy(m[boat], mesh[boat]);
+            return kindOf(boat).tearBy(m[boat], mesh[boat]);
         }
 
         boolean mayHaul(int boat) {
