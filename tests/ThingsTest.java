@@ -68,10 +68,16 @@ public final class ThingsTest {
         y.sleep(2, 4, 8);
         y.prove(2, 1);
         C.due("39 nightmare", y.row(0, 2), 4);
+        y.sleep(2, 2, 9);
+        y.prove(2, 1);
+        C.due("39 teeth", y.row(0, 2), 2);
+        y.sleep(2, 1, 9);
+        y.prove(2, 1);
+        C.due("39 falling", y.row(0, 2), 1);
         C.due("40 alter", y.alterRow(0, 1, -77), 0);
         C.due("39 altered", y.row(0, 1), -77);
         C.due("40 alter", y.alterRow(0, 1, Integer.MAX_VALUE), -77);
-        C.due("40 alter", y.alterRow(0, 2, 9), 4);
+        C.due("40 alter", y.alterRow(0, 2, 9), 1);
         C.due("40 no row", y.alterRow(1, 0, 5), -9);
         C.due("40 no row", y.alterRow(-1, 0, 5), -9);
         C.due("40 no what", y.alterRow(0, 3, 5), -9);
