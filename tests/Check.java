@@ -38,13 +38,29 @@ final class Check {
     }
 
     static void lay(DreamNets x, String text) {
-        for (int from = 0; from < text.length(); from += 8) {
-            int n = Math.min(8, text.length() - from);
-            long eight = 0;
-            for (int i = 0; i < n; i++) {
-                eight |= (long) (text.charAt(from + i) & 255) << (8 * i);
-            }
-            x.feed(eight, n);
+        if (text.length() > 200) {
+            throw new IllegalArgumentException("a tape has 200 bytes at most: " + text);
         }
+        for (int from = 0; from < text.length(); from += 8) {
+            x.feed(eight(text, from), Math.min(8, text.length() - from));
+        }
+    }
+
+    /** The bytes of a text from a place on, eight at most, the first the lowest. */
+    static long eight(String text, int from) {
+        long eight = 0;
+        for (int i = 0; i < 8 && from + i < text.length(); i++) {
+            eight |= (long) (text.charAt(from + i) & 255) << (8 * i);
+        }
+        return eight;
+    }
+
+    /** A new object in which no one sleeps, so that nothing is born of nothing. */
+    static DreamNets still() {
+        DreamNets x = new DreamNets();
+        for (int street = 0; street < 8; street++) {
+            x.sleep(street, 5, 0);
+        }
+        return x;
     }
 }
