@@ -5,7 +5,9 @@ import java.lang.reflect.Method;
 import java.lang.reflect.Modifier;
 import java.nio.file.Files;
 import java.nio.file.Path;
+import java.util.Map;
 import java.util.Set;
+import java.util.TreeMap;
 import java.util.TreeSet;
 import java.util.regex.Matcher;
 import java.util.regex.Pattern;
@@ -34,6 +36,7 @@ public final class LanguageTest {
         String code = bare(Files.readString(Path.of("src/main/java/DreamNets.java")));
         words(code);
         methods(code);
+        depths(code);
         C.end();
     }
 
@@ -132,17 +135,19 @@ public final class LanguageTest {
         C.holds("4 not looked at yet, from the library: " + library, library.isEmpty());
     }
 
+    private static final Pattern HEAD = Pattern.compile(
+            "^( {4}| {8})(?=[a-zA-Z])(?!if|for|while|switch)[\\w\\[\\]<>, ]*?(\\w+)\\(([^)]*)\\) \\{$");
+
     private static void methods(String code) {
         String[] lines = code.split("\n");
-        Pattern head = Pattern.compile("^( {4}| {8})(?=[a-z])(?!if|for|while|switch)[\\w\\[\\]<>, ]+\\(([^)]*)\\) \\{$");
         int found = 0;
         for (int i = 0; i < lines.length; i++) {
-            Matcher m = head.matcher(lines[i]);
+            Matcher m = HEAD.matcher(lines[i]);
             if (!m.matches()) {
                 continue;
             }
             found++;
-            C.holds("11 seven parameters: " + lines[i], m.group(2).split(",").length <= 7);
+            C.holds("11 seven parameters: " + lines[i], m.group(3).split(",").length <= 7);
             int end = i;
             while (end < lines.length && !lines[end].equals(m.group(1) + "}")) {
                 end++;
@@ -150,5 +155,42 @@ public final class LanguageTest {
             C.holds("11 some sixty lines: " + lines[i], end - i <= 60);
         }
         C.holds("methods found: " + found, found > 100);
+    }
+
+    /** Methods are told by their names: one name that calls itself (a body and its super's) is a recursion. */
+    private static void depths(String code) {
+        Map<String, Set<String>> calls = new TreeMap<>();
+        String method = null;
+        for (String line : code.split("\n")) {
+            Matcher head = HEAD.matcher(line);
+            if (head.matches()) {
+                method = head.group(2);
+                calls.computeIfAbsent(method, name -> new TreeSet<>());
+                continue;
+            }
+            Matcher m = Pattern.compile("\\b(\\w+)\\(").matcher(line);
+            while (method != null && m.find()) {
+                calls.get(method).add(m.group(1));
+            }
+        }
+        for (String name : calls.keySet()) {
+            int depth = depth(calls, name, new TreeSet<>());
+            C.holds("11 calls go " + depth + " deep from " + name, depth <= 8);
+        }
+        C.due("a chain of the reader", depth(calls, "readNumber", new TreeSet<>()), 3);
+        C.due("a chain of the plan", depth(calls, "explore", new TreeSet<>()), 4);
+    }
+
+    /** The longest chain of methods from one on; none of them twice. */
+    private static int depth(Map<String, Set<String>> calls, String name, Set<String> open) {
+        if (!calls.containsKey(name) || !open.add(name)) {
+            return 0;
+        }
+        int deepest = 0;
+        for (String called : calls.get(name)) {
+            deepest = Math.max(deepest, depth(calls, called, open));
+        }
+        open.remove(name);
+        return deepest + 1;
     }
 }

@@ -781,16 +781,17 @@ public final class DreamNets {
         search.n = n;
         search.bestWorth = -1;
         search.steps[0].copyFrom(now);
-        explore(search, 0, 0);
+        explore(search, 0);
     }
 
     /** Ways are met in the order of their streets, so that of several best the first one stays. */
-    private static void explore(Search search, int depth, int worth) {
+    private static void explore(Search search, int depth) {
+        World from = search.steps[depth];
         if (depth >= search.n || depth >= MOST_STEPS) {
-            search.endWay(worth);
+            // nothing is landed on the way, so what it holds more is what it hauled
+            search.endWay(from.worthHeld(search.boat) - search.steps[0].worthHeld(search.boat));
             return;
         }
-        World from = search.steps[depth];
         World to = search.steps[depth + 1];
         int at = from.at[search.boat];
         for (int street = 0; street < STREETS; street++) {
@@ -799,9 +800,9 @@ public final class DreamNets {
                 to.copyFrom(from);
                 to.at[search.boat] = street;
                 search.way[depth] = street;
-                int hauled = to.worthOfDrag(search.boat);
+                to.drag(search.boat);
                 to.ring();
-                explore(search, depth + 1, worth + hauled);
+                explore(search, depth + 1);
             }
         }
     }
@@ -1241,18 +1242,14 @@ public final class DreamNets {
                 }
             } else if (isDigit(bytes[next])) {
                 token = NUMBER;
-                stepOverDigits();
+                value = 0;
+                while (next < end && isDigit(bytes[next])) {
+                    // too many digits give a value that no range holds
+                    value = next - start < MOST_DIGITS ? value * 10 + bytes[next] - '0' : -1;
+                    next++;
+                }
             } else {
                 token = OTHER;
-                next++;
-            }
-        }
-
-        /** A number of too many digits gets a value that no range holds. */
-        private void stepOverDigits() {
-            value = 0;
-            while (next < end && isDigit(bytes[next])) {
-                value = next - start < MOST_DIGITS ? value * 10 + bytes[next] - '0' : -1;
                 next++;
             }
         }
